@@ -667,8 +667,6 @@ public final class StripCloth {
 
         void clear() {
             size = 0;
-            textEnd = 0;
-            next = 0;
         }
 
         void step() {

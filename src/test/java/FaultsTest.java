@@ -57,6 +57,16 @@ public final class FaultsTest {
         faultAt("^1234", 2);
         faultAt("^stripa: a1;", 2);
         faultAt("^turn", 2);
+        faultAt("^xtrip a: a1;", 2);
+        faultAt("^strix a: a1;", 2);
+        faultAt("strip a: ^xurn(a1);", 2);
+        faultAt("strip a: ^turx(a1);", 2);
+        faultAt(ONE + "^xloth b: a;", 2);
+        faultAt(ONE + "^clotx b: a;", 2);
+        faultAt(ONE + "cloth b: ^burn a;", 2);
+        faultAt("strip a: a1 2(^);", 2);
+        faultAt("strip a: a1 turn(^);", 2);
+        faultAt("strip a: a1 2(b1 turn(^));", 2);
         faultAt("strip^", 2);
         faultAt("strip   ^", 2);
         faultAt("strip ^turn: a1;", 2);

@@ -14,7 +14,31 @@ public final class NewObjectTest {
         Check.due(x, "load(0)", x.load(0), 0, 0);
         callsWithoutStatus();
         theFirstStatusThatHolds();
+        whereAllThatCanBeIsTold();
         Check.end();
+    }
+
+    private static void whereAllThatCanBeIsTold() {
+        StringBuilder text = new StringBuilder();
+        for (char name = 'a'; name <= 'l'; name++) {
+            text.append("strip ").append(name).append(":4(50(a1b1));");
+        }
+        for (char name = 'a'; name <= 'f'; name++) {
+            text.append("cloth ").append(name).append(":a,a,a,a,a,a,a,a,a,a,a,a;");
+        }
+        StripCloth x = Check.with(text.toString());
+        Check.due(x, "pick(11, 399)", x.pick(11, 399), 1, 0);
+        Check.due(x, "pick(11, 400)", x.pick(11, 400), -1, 2);
+        Check.due(x, "block(11, 399, 1)", x.block(11, 399, 1), 1, 0);
+        Check.due(x, "block(11, 400, 1)", x.block(11, 400, 1), -1, 2);
+        Check.due(x, "strip(12, 0)", x.strip(12, 0), -1, 1);
+        Check.due(x, "cloth(5, 11, 3)", x.cloth(5, 11, 3), 400, 0);
+        Check.due(x, "cloth(5, 12, 3)", x.cloth(5, 12, 3), -1, 1);
+        Check.due(x, "cloth(6, 0, 3)", x.cloth(6, 0, 3), -1, 1);
+        Check.due(x, "at(5, 12, 0)", x.at(5, 12, 0), -1, 1);
+        Check.due(x, "seam(5, 10, 0)", x.seam(5, 10, 0), 400, 0);
+        Check.due(x, "seam(5, 11, 0)", x.seam(5, 11, 0), -1, 1);
+        Check.due(x, "far(11, 12)", x.far(11, 12), -1, 1);
     }
 
     private static void callsWithoutStatus() {

@@ -5,6 +5,7 @@ public final class TapeTest {
         theTapeHasRoomFor800();
         wrongLengthsChangeNothing();
         loadingEmptiesTheTape();
+        theTextEndsWhereItIsSaid();
         aFaultKeepsWhatWasTold();
         anEmptyTextTellsNothing();
         faultIsOfTheLatestReading();
@@ -57,6 +58,21 @@ public final class TapeTest {
         Check.due("feed", x.feed(0, 0, 0, 0, 0), 20);
         Check.due(x, "load(1)", x.load(1), -1, 4);
         Check.due("feed", x.feed(0, 0, 0, 0, 0), 20);
+    }
+
+    private static void theTextEndsWhereItIsSaid() {
+        String text = "strip a: a12; cloth x: turn a ;";
+        int[] ends = {0, 3, 5, 6, 7, 8, 9, 10, 11, 12, 13, 16, 19, 21, 22, 25, 27, 29, 30, 31};
+        for (int end : ends) {
+            StripCloth x = new StripCloth();
+            Check.feed(x, Check.bytes(text));
+            boolean whole = end == 0 || end == 13 || end == 31;
+            Check.due(x, "load(" + end + ") of " + text, x.load(end), whole ? Math.min(end, 1) : -1, whole ? 0 : 4);
+            // a part of a WORD is another WORD
+            int place = end == 3 ? 0 : end == 16 ? 14 : end == 25 ? 23 : end;
+            Check.due("fault(1) behind load(" + end + ")", x.fault(1), whole ? -1 : place);
+            Check.due("fault(0) behind load(" + end + ")", x.fault(0), whole ? 0 : 2);
+        }
     }
 
     private static void aFaultKeepsWhatWasTold() {
