@@ -1,9 +1,11 @@
 import java.util.Random;
 
-/** Promises 1 to 22: runs of 512 calls by chance (always the same ones), each answer compared with the Oracle's. */
+/** Promises 1 to 22: runs of at most 512 calls by chance (always the same ones), each answer compared with the Oracle's. */
 public final class OracleTest {
-    private static final int RUNS = 400;
+    private static final int RUNS = 1000;
     private static final int CALLS = 512;
+    // a text of 400 bytes with what is asked behind it, each call with its status()
+    private static final int DEAREST_STEP = 2 * (20 + 3) + 2 + 14;
     private static final int[] EDGES = {-2, -1, 0, 1, 2, 3, 7, 8, 9, 10, 20, 21, 25, 26, 50, 51, 100, 399, 400, 499, 500,
         501, 9999, 10000, 1000000, 1000001, Integer.MAX_VALUE, Integer.MIN_VALUE};
 
@@ -26,16 +28,17 @@ public final class OracleTest {
     }
 
     private void run() {
-        while (calls < CALLS - 60) {
+        while (calls <= CALLS - DEAREST_STEP) {
             if (random.nextInt(4) == 0) {
                 tellText();
             }
             ask();
         }
+        Check.due("calls are at most 512", calls <= CALLS, true);
     }
 
     private void due(String call, int got, int want) {
-        calls++;
+        calls += 2;
         Check.due(call + " behind " + text, got, want);
         Check.due("status() behind " + call + " behind " + text, x.status(), o.status);
         if (got != want || x.status() != o.status) {
@@ -132,6 +135,7 @@ public final class OracleTest {
     }
 
     private void askOut() {
+        calls += 14;
         for (int k = -1; k < 13; k++) {
             Check.due("out(" + k + ") behind " + text, x.out(k), o.out(k));
         }
