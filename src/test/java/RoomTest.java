@@ -66,14 +66,14 @@ public final class RoomTest {
             x.lot(0, 100000 - k);
         }
         long before = BEAN.getCurrentThreadAllocatedBytes();
-        for (int k = 0; k < 100; k++) {
+        for (int k = 0; k < 96; k++) {
             x.shifts(1, 20);
             x.order(0);
             x.dye(0, 0);
             x.far(0, 1);
             x.cloth(1, -1, 3);
         }
-        dueRoom("500 searches", before);
+        dueRoom("480 searches", before);
     }
 
     private static void everyTextIsDear() {

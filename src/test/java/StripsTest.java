@@ -26,6 +26,8 @@ public final class StripsTest {
         Check.due(x, "pick behind the last", x.pick(0, picks.length()), -1, 2);
         int block = 0;
         for (int from = 0; from < picks.length(); block++) {
+            // an object is promised for 512 calls
+            x = block % 200 == 0 ? Check.with("strip q: " + pieces + ";") : x;
             int to = from;
             while (to < picks.length() && picks.charAt(to) == picks.charAt(from)) {
                 to++;
