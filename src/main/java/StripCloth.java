@@ -613,23 +613,17 @@ public final class StripCloth {
         static final int NUMBER = 2;
         static final int SIGN = 3;
         static final int NO_TOKEN = 4;
-
-        // what value says of a WORD of two letters and more; of one letter it says 0 for a to 25 for z
-        static final int STRIP_WORD = 26;
-        static final int CLOTH_WORD = 27;
-        static final int TURN_WORD = 28;
-        static final int OTHER_WORD = 29;
+        private static final int BLANK = 5;
 
         private static final int MOST_DIGITS = 4;
         private static final int LINE_END = 10;
 
-        final byte[] bytes;
+        private final byte[] bytes;
         int size;
         private int textEnd;
         private int next;
         int kind;
         int place;
-        int value;
 
         Tape() {
             bytes = new byte[MOST_BYTES];
@@ -638,7 +632,6 @@ public final class StripCloth {
             next = 0;
             kind = END;
             place = 0;
-            value = 0;
         }
 
         int add(int a, int b, int c, int d, int e) {
@@ -669,43 +662,57 @@ public final class StripCloth {
             size = 0;
         }
 
+        /** The next TOKEN is the one that is read now. */
         void step() {
-            while (next < textEnd && (bytes[next] == ' ' || bytes[next] == LINE_END)) {
+            while (next < textEnd && kindOf(bytes[next]) == BLANK) {
                 next++;
             }
             place = next;
             if (next >= textEnd) {
                 kind = END;
-                value = 0;
-            } else if (isLetter(bytes[next])) {
-                takeWord();
-            } else if (isDigit(bytes[next])) {
-                takeNumber();
-            } else {
-                takeSign();
+                return;
             }
-        }
-
-        private void takeWord() {
-            while (next < textEnd && isLetter(bytes[next])) {
+            kind = kindOf(bytes[next]);
+            next++;
+            boolean goesOn = kind == WORD || kind == NUMBER;
+            while (goesOn && next < textEnd && kindOf(bytes[next]) == kind) {
                 next++;
             }
-            kind = WORD;
-            if (next - place == 1) {
-                value = bytes[place] - 'a';
-            } else if (spells("strip")) {
-                value = STRIP_WORD;
-            } else if (spells("cloth")) {
-                value = CLOTH_WORD;
-            } else if (spells("turn")) {
-                value = TURN_WORD;
-            } else {
-                value = OTHER_WORD;
+            if (kind == NUMBER && next - place > MOST_DIGITS) {
+                kind = NO_TOKEN;
             }
         }
 
-        private boolean spells(String word) {
-            if (next - place != word.length()) {
+        /** Which kind of TOKEN begins with that byte, or goes on with it. */
+        private static int kindOf(int c) {
+            if (c >= 'a' && c <= 'z') {
+                return WORD;
+            }
+            if (c >= '0' && c <= '9') {
+                return NUMBER;
+            }
+            switch (c) {
+                case ' ':
+                case LINE_END:
+                    return BLANK;
+                case '(':
+                case ')':
+                case ';':
+                case ',':
+                case '+':
+                case ':':
+                    return SIGN;
+                default:
+                    return NO_TOKEN;
+            }
+        }
+
+        boolean isSign(int sign) {
+            return kind == SIGN && bytes[place] == sign;
+        }
+
+        boolean isWord(String word) {
+            if (kind != WORD || next - place != word.length()) {
                 return false;
             }
             for (int k = 0; k < word.length(); k++) {
@@ -716,55 +723,26 @@ public final class StripCloth {
             return true;
         }
 
-        private void takeNumber() {
-            value = 0;
-            while (next < textEnd && isDigit(bytes[next])) {
-                value = value * 10 + (bytes[next] - '0');
-                next++;
-            }
-            kind = next - place > MOST_DIGITS ? NO_TOKEN : NUMBER;
-        }
-
-        private void takeSign() {
-            value = bytes[next];
-            next++;
-            switch (value) {
-                case '(':
-                case ')':
-                case ';':
-                case ',':
-                case '+':
-                case ':':
-                    kind = SIGN;
-                    break;
-                default:
-                    kind = NO_TOKEN;
-                    break;
-            }
-        }
-
-        private static boolean isLetter(int c) {
-            return c >= 'a' && c <= 'z';
-        }
-
-        private static boolean isDigit(int c) {
-            return c >= '0' && c <= '9';
-        }
-
-        boolean isSign(int sign) {
-            return kind == SIGN && value == sign;
-        }
-
-        boolean isWord(int word) {
-            return kind == WORD && value == word;
-        }
-
         boolean isName() {
-            return kind == WORD && value < NAMES;
+            return kind == WORD && next - place == 1;
         }
 
         boolean isColour() {
-            return kind == WORD && value < COLOURS;
+            return isName() && letter() < COLOURS;
+        }
+
+        /** Of a NAME or a COLOUR: 0 for a. */
+        int letter() {
+            return kind == WORD ? bytes[place] - 'a' : NONE;
+        }
+
+        /** Of a NUMBER: how much it is. */
+        int number() {
+            int sum = 0;
+            for (int k = place; k < next && kind == NUMBER; k++) {
+                sum = sum * 10 + (bytes[k] - '0');
+            }
+            return sum;
         }
     }
 
@@ -881,9 +859,9 @@ public final class StripCloth {
                 tape.step();
                 if (tape.kind == Tape.END) {
                     more = false;
-                } else if (tape.isWord(Tape.STRIP_WORD) && told.clothCount == 0) {
+                } else if (tape.isWord("strip") && told.clothCount == 0) {
                     more = readStrip(told);
-                } else if (tape.isWord(Tape.CLOTH_WORD)) {
+                } else if (tape.isWord("cloth")) {
                     more = readCloth(told);
                 } else {
                     more = cannotStand();
@@ -900,7 +878,7 @@ public final class StripCloth {
             if (!readName()) {
                 return false;
             }
-            int name = tape.value;
+            int name = tape.letter();
             if (told.findStrip(name) != NONE) {
                 return refuseHere(NAMED_ALREADY);
             }
@@ -922,7 +900,7 @@ public final class StripCloth {
                         return false;
                     }
                     hasPiece = true;
-                } else if (tape.kind == Tape.NUMBER || tape.isWord(Tape.TURN_WORD)) {
+                } else if (tape.kind == Tape.NUMBER || tape.isWord("turn")) {
                     if (!readOpening()) {
                         return false;
                     }
@@ -940,19 +918,19 @@ public final class StripCloth {
         }
 
         private boolean readColouredPicks() {
-            int colour = tape.value;
+            int colour = tape.letter();
             int colourPlace = tape.place;
             if (!readNumber(1, MOST_OF_A_PIECE)) {
                 return false;
             }
-            return weave.add(colour, tape.value) || refuse(TOO_MANY_PICKS, colourPlace);
+            return weave.add(colour, tape.number()) || refuse(TOO_MANY_PICKS, colourPlace);
         }
 
         /** NUMBER ( or turn (, of which the first TOKEN has been read. */
         private boolean readOpening() {
             int times = Weave.TURN;
             if (tape.kind == Tape.NUMBER) {
-                times = tape.value;
+                times = tape.number();
                 if (times < FEWEST_TIMES || times > MOST_TIMES) {
                     return refuseHere(WRONG_NUMBER);
                 }
@@ -970,10 +948,11 @@ public final class StripCloth {
             if (!readName()) {
                 return false;
             }
-            if (told.findCloth(tape.value) != NONE) {
+            int name = tape.letter();
+            if (told.findCloth(name) != NONE) {
                 return refuseHere(NAMED_ALREADY);
             }
-            Cloth sewn = new Cloth(tape.value);
+            Cloth sewn = new Cloth(name);
             if (!readSign(':') || !readParts(told, sewn)) {
                 return false;
             }
@@ -985,7 +964,7 @@ public final class StripCloth {
         private boolean readParts(Book told, Cloth sewn) {
             for (int k = 0; k <= MOST_PARTS; k++) {
                 tape.step();
-                if (!tape.isName() && !tape.isWord(Tape.TURN_WORD)) {
+                if (!tape.isName() && !tape.isWord("turn")) {
                     return cannotStand();
                 }
                 if (sewn.size >= MOST_PARTS) {
@@ -1006,11 +985,11 @@ public final class StripCloth {
 
         /** A PART, of which the first TOKEN has been read; the TOKEN behind it has been read then. */
         private boolean readPart(Book told, Cloth sewn) {
-            boolean turned = tape.isWord(Tape.TURN_WORD);
+            boolean turned = tape.isWord("turn");
             if (turned && !readName()) {
                 return false;
             }
-            int number = told.findStrip(tape.value);
+            int number = told.findStrip(tape.letter());
             Strip band = told.stripNumbered(number);
             if (band == null) {
                 return refuseHere(NOT_TOLD);
@@ -1021,7 +1000,7 @@ public final class StripCloth {
                 if (!readNumber(0, MOST_BELOW_TOP)) {
                     return false;
                 }
-                shift = tape.value;
+                shift = tape.number();
                 tape.step();
             }
             sewn.add(new Part(band, number, turned, shift));
@@ -1043,12 +1022,12 @@ public final class StripCloth {
             if (tape.kind != Tape.NUMBER) {
                 return cannotStand();
             }
-            boolean fits = tape.value >= least && tape.value <= most;
-            return fits || refuseHere(WRONG_NUMBER);
+            int number = tape.number();
+            return number >= least && number <= most || refuseHere(WRONG_NUMBER);
         }
 
         private boolean cannotStand() {
-            return refuseHere(tape.kind == Tape.NO_TOKEN ? NOT_A_TOKEN : CANNOT_STAND);
+            return refuse(tape.kind == Tape.NO_TOKEN ? NOT_A_TOKEN : CANNOT_STAND, tape.place);
         }
 
         private boolean refuseHere(int kind) {
