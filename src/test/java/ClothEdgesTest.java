@@ -174,9 +174,21 @@ public final class ClothEdgesTest {
         dueShifts(x, 2, 20, 3, 0, 100);
         dueShifts(x, 3, 0, 0, 0);
         dueShifts(x, 3, 20, 0, 0);
+        shiftsOfSeveralParts();
         // the CLOTH itself stays
         Check.due(x, "cloth(0, 0, 1)", x.cloth(0, 0, 1), 50, 0);
         Check.due(x, "cloth(0, 1, 2)", x.cloth(0, 1, 2), 1, 0);
+    }
+
+    private static void shiftsOfSeveralParts() {
+        // both change at 1 if both are turned, else at 3 and 4, 3 and 1, 1 and 4
+        StripCloth x = Check.with("strip c: a3 b1; strip d: c4 d1; strip a: a21 b21; strip b: c1 d1; strip e: e18 f18;"
+                + "cloth a: c, d; cloth b: a, b, e; cloth c: e, b, a, b;");
+        dueShifts(x, 0, 0, 3, 100, 100);
+        // all change at 21; each PART is another one's neighbour at another shift
+        dueShifts(x, 1, 20, 6, 0, 20, 3);
+        dueShifts(x, 2, 20, 9, 3, 20, 0, 20);
+        dueShifts(x, 2, 19, 3, 0, 17, 0, 0);
     }
 
     private static void firstOfShifts() {
@@ -216,6 +228,13 @@ public final class ClothEdgesTest {
         // aabb beside ..aabb is 0, beside ..bbaa less 2; these two beside each other are 3
         dueOrder(x, 5, 3, 0, 1, 2);
         Check.due(x, "cloth(3, 2, 2)", x.cloth(3, 2, 2), 1, 0);
+        // the first PART in the middle, and the last one there
+        StripCloth z = Check.with("strip p: a2 b2; cloth a: turn p, p, p; cloth b: p, p, turn p, turn p; cloth c: turn p, p, p,"
+                + "turn p, p, p, p, turn p;");
+        dueOrder(z, 0, 6, 1, 0, 2);
+        dueOrder(z, 1, 9, 0, 2, 1, 3);
+        // five that are not turned and three that are: six SEAMS at the most are between one and the other
+        dueOrder(z, 2, 6 * 3 - 1, 1, 0, 2, 3, 4, 5, 7, 6);
         StripCloth y = Check.with("strip a: a1; cloth a: a,a,a,a,a,a,a,a,a,a,a,a; cloth b: a; cloth c: a, a;");
         Check.due(y, "order(0)", y.order(0), -1, 7);
         dueOrder(y, 1, 0, 0);

@@ -168,8 +168,10 @@ public final class FaultEdgesTest {
 
     private static void wordsOfTwoLettersAndMore() {
         Check.says("a WORD of two letters and more that is no NAME, COLOUR, nor what is told above, too).");
-        String[] words = {"aa", "ab", "zz", "tur", "turm", "turns", "urn", "stri", "strit", "strips", "trip", "clot", "clots",
-            "cloths", "loth", "stripstrip", "abcdefghijklmnopqrstuvwxyz"};
+        // a letter less, a letter more, and each letter another one
+        String[] words = {"aa", "ab", "zz", "tur", "urn", "turns", "burn", "torn", "tusn", "turm", "stri", "trip", "strips",
+            "atrip", "sarip", "staip", "strap", "stria", "clot", "loth", "cloths", "aloth", "cmoth", "clath", "clogh", "clots",
+            "stripstrip", "abcdefghijklmnopqrstuvwxyz"};
         for (String word : words) {
             Check.faultAt("^" + word + " a: a1;", 2);
             Check.faultAt("strip ^" + word + ": a1;", 2);

@@ -443,6 +443,12 @@ public final class StatusEdgesTest {
         Check.due(x, "a FAULT behind a STRIP and a CLOTH", Check.load(x, ";strip d: d1; cloth e: d;"), -1, 4);
         Check.due(x, "load(1)", x.load(1), -1, 2);
         Check.due(x, "strip(0, 0)", x.strip(0, 0), 0, 0);
+        // nothing of a TEXT with a FAULT is left over for the next one, not what is open in it either
+        Check.due(x, "a FAULT within ( )", Check.load(x, "strip d: d1; strip e: e9 2(turn(f1"), -1, 4);
+        String next = "strip g: g1; strip d: " + "turn(".repeat(7) + "2(h1 a1" + ")".repeat(8) + ";";
+        Check.due(x, "load of " + next, Check.load(x, next), 2, 0);
+        Check.duePicks(x, 0, "g");
+        Check.duePicks(x, 1, "ahah");
     }
 
     private static void dueFault(StripCloth x, String behind, int kind, int place) {
